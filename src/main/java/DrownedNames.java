@@ -20,16 +20,23 @@ public final class DrownedNames {
     private final Text shipText = new Text(SHIP_ITEM, MOST_SHIPS);
     private final Text nameText = new Text(NAME_ITEM, MOST_NAMES);
     private final Text lineText = new Text(LINE_ITEM, MOST_LINES);
-    private final Harbour harbour = new Harbour();
-    private final Reckoning reckoning = new Reckoning(harbour);
     private final Pairs losses = new Pairs(MOST_LOSSES);
-    private final Pairs sightings = new Pairs(MOST_SEEN);
-    private final Evidence evidence = new Evidence(harbour, reckoning, sightings);
     private final Sheet[] sheets = new Sheet[SHEETS];
+    private final Harbour harbour;
+    private final Reckoning reckoning;
+    private final Pairs sightings;
+    private final Evidence evidence;
     private int struckNames;
     private int latestFinding;
 
     public DrownedNames() {
+        Harbour madeHarbour = new Harbour();
+        Reckoning madeReckoning = new Reckoning(madeHarbour);
+        Pairs madeSightings = new Pairs(MOST_SEEN);
+        harbour = madeHarbour;
+        reckoning = madeReckoning;
+        sightings = madeSightings;
+        evidence = new Evidence(madeHarbour, madeReckoning, madeSightings);
         for (int s = 0; s < SHEETS; s++) {
             sheets[s] = new Sheet();
         }
@@ -498,7 +505,9 @@ public final class DrownedNames {
     }
 
     private void settle() {
-        harbour.settle(shipText, nameText, lineText);
+        harbour.settleShips(shipText);
+        harbour.settleNames(nameText);
+        harbour.settleLines(lineText);
         harbour.strikeOut(struckNames);
     }
 
@@ -643,13 +652,7 @@ public final class DrownedNames {
             return (drowned >> name & 1) == 1;
         }
 
-        void settle(Text shipText, Text nameText, Text lineText) {
-            settleShips(shipText);
-            settleNames(nameText);
-            settleLines(lineText);
-        }
-
-        private void settleShips(Text text) {
+        void settleShips(Text text) {
             ships = Math.min(text.items(), MOST_SHIPS);
             for (int ship = 0; ship < ships; ship++) {
                 int at = ship * text.step;
@@ -658,7 +661,7 @@ public final class DrownedNames {
             }
         }
 
-        private void settleNames(Text text) {
+        void settleNames(Text text) {
             names = Math.min(text.items(), MOST_NAMES);
             drowned = 0;
             for (int name = 0; name < names; name++) {
@@ -670,7 +673,7 @@ public final class DrownedNames {
             }
         }
 
-        private void settleLines(Text text) {
+        void settleLines(Text text) {
             lines = Math.min(text.items(), MOST_LINES);
             for (int line = 0; line < lines; line++) {
                 int at = line * text.step;
@@ -839,22 +842,20 @@ public final class DrownedNames {
             }
             lost |= 1 << ship;
             for (int line = 0; line < harbour.lines; line++) {
-                if (harbour.lineShip[line] == ship && harbour.due[line] > 0) {
-                    payLine(line, year, payers);
+                int due = harbour.due[line];
+                if (harbour.lineShip[line] != ship || due == 0) {
+                    continue;
                 }
-            }
-        }
-
-        private void payLine(int line, int year, int payers) {
-            int payer = harbour.bearer[harbour.lineName[line]];
-            if (payer == NONE || (payers >> payer & 1) == 0) {
-                return;
-            }
-            int part = Math.min(harbour.due[line], left[payer]);
-            left[payer] -= part;
-            paid[harbour.lineShip[line]] += part;
-            if (part < harbour.due[line] && !harbour.isDrowned(payer)) {
-                breakName(payer, year);
+                int payer = harbour.bearer[harbour.lineName[line]];
+                if (payer == NONE || (payers >> payer & 1) == 0) {
+                    continue;
+                }
+                int part = Math.min(due, left[payer]);
+                left[payer] -= part;
+                paid[ship] += part;
+                if (part < due && !harbour.isDrowned(payer)) {
+                    breakName(payer, year);
+                }
             }
         }
 

@@ -541,6 +541,10 @@ public final class PromisesTest {
         x.forget();
         due("25: the empty set alone", x.sound(0), 1);
         due("25: the empty set", x.sound(1), 0);
+        // The sets that are sound pay 99 for ship 0, and for ship 1 one pays 99, one nothing.
+        x = Check.harbour("990;990", "99l.;99l.", "0a99;1b99");
+        x.seen(0, 99);
+        due("26: so much may be paid, too", x.press(), 1);
         // A bearer that is unsound pays for nobody.
         x = Check.harbour("100", "05lb;20l.", "0a06;0b04");
         x.seen(0, 10);
@@ -822,6 +826,22 @@ public final class PromisesTest {
         x.loss(5, 0);
         // a owes 6, b 3, of 15 for 10; without a, b owes 5, without b, a owes 10.
         due("37: names and lines", x.digest(), folded(1, 2, 2, 3, 9, 9, 1, 0, -1, -1, -1,
+            10, 0, 0, 6, 9, 1,
+            15, 0, 2, 0, 1, 0, 9, -6, 0, 1, 1, 1, 15, 0,
+            4, 0, -1, 1, 2, 0, 1, 4, 0, 1, 0, 1, 4, 0,
+            0, 0, 10, 6, 0, 1, 5, 3,
+            0, 0, 0, 1, 0, 1, -1, -1, 1, 4, 0, 0));
+        x.back();
+        x.loss(10, 0);
+        due("37: a loss behind year 9", x.digest(), folded(1, 2, 2, 3, 9, 9, 1, 0, -1, -1, -1,
+            10, 0, 0, 6, 0, 1,
+            15, 0, 2, 0, 1, 0, 15, -6, 0, 1, 1, 1, 15, 0,
+            4, 0, -1, 1, 2, 0, 4, 4, 0, 1, 0, 1, 4, 0,
+            0, 0, 10, 6, 0, 1, 5, 3,
+            0, 0, 0, 0, 0, 1, -1, -1, 1, 4, 0, 0));
+        x.back();
+        x.loss(9, 0);
+        due("37: a loss in year 9", x.digest(), folded(1, 2, 2, 3, 9, 9, 1, 0, -1, -1, -1,
             10, 0, 0, 6, 9, 1,
             15, 0, 2, 0, 1, 0, 9, -6, 0, 1, 1, 1, 15, 0,
             4, 0, -1, 1, 2, 0, 1, 4, 0, 1, 0, 1, 4, 0,
