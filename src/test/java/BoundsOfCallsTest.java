@@ -23,6 +23,7 @@ public final class BoundsOfCallsTest {
         counting();
         digestOfAll();
         digestInOrder();
+        digestOfYears();
         CHECK.end();
     }
 
@@ -238,6 +239,23 @@ public final class BoundsOfCallsTest {
             count 6 = 2
             get 2 2 0 = 0
             lose 2 = 3                     # the SHEET stays
+            """);
+        says("12: from item 0 on, in their order", """
+            ships 100;100;100
+            names 99l.
+            lines 0a05;1a06;2a07
+            sheet 0 0 6
+            lay 0 0 0 3                    # ship 0 in YEAR 3
+            lay 0 0 2 2                    # ship 1 in YEAR 2
+            lay 0 0 3 1
+            lay 0 0 4 1                    # ship 2 in YEAR 1
+            lay 0 0 5 2
+            read 0 = 3
+            behind 1 1 = 4
+            behind 2 1 = 6
+            behind 3 1 = 7
+            back = 2
+            behind 29 1 = 3
             """);
         says("12: as long as each may be", """
             sheet 0 1 8
@@ -886,5 +904,62 @@ public final class BoundsOfCallsTest {
             1, 1, 8, 8,
             0, 0, 0, 1, 1, 3,
             29, 0, 3, 4, 1, 0);
+    }
+
+    private static void digestOfYears() {
+        folds("of YEARS 0, 9, 29: lost in 1", "ships 100\nnames 15l.\nlines 0a05\nloss 1 0",
+            1, 1, 1, 3, 4, 4, 1, 0, -1, -1, -1,
+            10, 0, 0, 5, 5, 1,
+            15, 0, -1, 0, 1, 0, 10, -5, 0, 1, 1, 1, 15, 0,
+            0, 0, 5, 5,
+            0, 0, 0, 1, 0, 1, -1, -1, 1, 2, 0, 0);
+        folds("of YEARS 0, 9, 29: lost in 10", "ships 100\nnames 15l.\nlines 0a05\nloss 10 0",
+            1, 1, 1, 3, 4, 4, 1, 0, -1, -1, -1,
+            10, 0, 0, 5, 0, 1,
+            15, 0, -1, 0, 1, 0, 15, -5, 0, 1, 1, 1, 15, 0,
+            0, 0, 5, 5,
+            0, 0, 0, 0, 0, 1, -1, -1, 1, 2, 0, 0);
+        // a and b in a ring; b has 9, c 8.
+        folds("unborne(), storm(it, 9)", "ships 100\nnames 15lb;09la;08l.\nlines 0a05;0b02",
+            1, 3, 2, 3, 14, 9, 0, 0, -1, -1, -1,
+            10, 0, 7, 0, 0, 1,
+            15, 0, 1, -1, 0, 1, 15, 0, 0, 1, 1, 1, 15, 0,
+            9, 0, 0, -1, 0, 1, 9, 5, 0, 1, 1, 1, 9, 0,
+            8, 0, -1, 2, 4, 0, 8, 0, 0, 1, 0, 1, 8, 0,
+            0, 0, 5, 5,
+            0, 1, 2, 2,
+            0, 0, 0, 0, 0, 0, -1, -1, 1, 8, 0, 0);
+        digestOfLots();
+    }
+
+    private static void digestOfLots() {
+        // From SEED 7 the LOTS are 12, 14, 4, 2, 3, 5, 2, 14, 1: the ninth is less than 2.
+        folds("years(7, 9, it): the ninth YEAR", "ships 102\nnames 20l.\nlines 0a01",
+            1, 1, 1, 3, 4, 4, 0, 0, -1, -1, -1,
+            10, 2, 0, 1, 0, 1,
+            20, 0, -1, 0, 1, 0, 20, -1, 1, 8, 1, 1, 19, 1,
+            0, 0, 1, 1,
+            0, 0, 0, 0, 0, 0, -1, -1, 1, 2, 0, 0);
+        // Two SHIPS: the ninth LOT is ship 0's in YEAR 4; from SEED 6 or 8 it is never lost by then.
+        folds("years(7, 9, it): SEED 7", "ships 102;100\nnames 20l.\nlines 0a01",
+            2, 1, 1, 7, 4, 4, 0, 0, -1, -1, -1,
+            10, 2, 0, 1, 0, 1,
+            10, 0, 0, 0, 0, 1,
+            20, 0, -1, 0, 1, 0, 20, -1, 1, 8, 1, 1, 19, 1,
+            0, 0, 1, 1,
+            0, 0, 0, 0, 0, 0, -1, -1, 3, 2, 0, 0);
+        // Ships 0 and 1 are lost in YEAR 2; ship 3 would be in YEAR 9, the tenth.
+        folds("years(7, 9, it): not the tenth YEAR",
+            "ships 102;102;100;102\nnames 20l.\nlines 0a01;1a02;3a04",
+            4, 1, 3, 15, 4, 14, 0, 0, -1, -1, -1,
+            10, 2, 0, 1, 0, 1,
+            10, 2, 0, 2, 0, 1,
+            10, 0, 0, 0, 0, 1,
+            10, 2, 0, 4, 0, 1,
+            20, 0, -1, 0, 1, 0, 20, -7, 7, 8, 1, 1, 17, 2,
+            0, 0, 1, 1,
+            1, 0, 2, 2,
+            3, 0, 4, 4,
+            0, 0, 0, 0, 0, 0, -1, -1, 15, 2, 0, 0);
     }
 }
