@@ -929,6 +929,15 @@ public final class BoundsOfCallsTest {
             0, 0, 5, 5,
             0, 1, 2, 2,
             0, 0, 0, 0, 0, 0, -1, -1, 1, 8, 0, 0);
+        // a has 8 left if the ship is lost, b 9.
+        folds("storm(it, 9), above, below", "ships 101\nnames 12l.;13l.\nlines 0a04;0b04",
+            1, 2, 2, 3, 9, 9, 0, 0, -1, -1, -1,
+            10, 1, 0, 4, 0, 1,
+            12, 0, -1, 0, 1, 0, 12, -4, 1, 4, 15, 16, 12, 0,
+            13, 0, -1, 1, 2, 0, 13, 0, 1, 4, 1, 1, 13, 0,
+            0, 0, 4, 4,
+            0, 1, 4, 4,
+            0, 0, 0, 0, 0, 0, -1, -1, 1, 4, 0, 0);
         digestOfLots();
     }
 
