@@ -635,6 +635,7 @@ public final class DrownedNames {
         final int[] lineAmount = new int[MOST_LINES];
         final int[] bearer = new int[MOST_NAMES];
         final int[] due = new int[MOST_LINES];
+        final int[] payer = new int[MOST_LINES];
 
         boolean hasShip(int ship) {
             return ship >= 0 && ship < ships;
@@ -688,7 +689,9 @@ public final class DrownedNames {
                 bearer[name] = bearerOf(name, struck);
             }
             for (int line = 0; line < lines; line++) {
-                due[line] = isVoid(line, struck) ? 0 : dueOfLine(line, struck);
+                boolean isVoid = isVoid(line, struck);
+                due[line] = isVoid ? 0 : dueOfLine(line, struck);
+                payer[line] = isVoid ? NONE : bearer[lineName[line]];
             }
         }
 
@@ -732,9 +735,7 @@ public final class DrownedNames {
         int dueOf(int ship, int name) {
             int sum = 0;
             for (int line = 0; line < lines; line++) {
-                if (lineShip[line] == ship && due[line] > 0 && bearer[lineName[line]] == name) {
-                    sum += due[line];
-                }
+                sum += lineShip[line] == ship && payer[line] == name ? due[line] : 0;
             }
             return sum;
         }
@@ -842,14 +843,12 @@ public final class DrownedNames {
             }
             lost |= 1 << ship;
             for (int line = 0; line < harbour.lines; line++) {
+                int payer = harbour.payer[line];
+                if (harbour.lineShip[line] != ship || !harbour.hasName(payer)
+                    || (payers >> payer & 1) == 0) {
+                    continue;
+                }
                 int due = harbour.due[line];
-                if (harbour.lineShip[line] != ship || due == 0) {
-                    continue;
-                }
-                int payer = harbour.bearer[harbour.lineName[line]];
-                if (payer == NONE || (payers >> payer & 1) == 0) {
-                    continue;
-                }
                 int part = Math.min(due, left[payer]);
                 left[payer] -= part;
                 paid[ship] += part;
